@@ -131,5 +131,11 @@ public final class EventsTest {
         Due.is("28 now", x.looked(), 3);
         x.clear(0);
         Due.is("28 now", x.looked(), 0);
+        TermIdeals y = Due.with(94);
+        y.book(94, 1);
+        y.book(93, 0);
+        y.book(84, 0);
+        y.book(49, 0);
+        Due.is("28 a and b", y.looked(), -5);
     }
 }

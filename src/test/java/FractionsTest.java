@@ -59,6 +59,14 @@ public final class FractionsTest {
         fraction("16 by s 1", y.jump(0, 0, 9, 0), y.jump(0, 0, 9, 1), 1, 2);
         fraction("16 by t 1", y.jump(0, 9, 0, 0), y.jump(0, 9, 0, 1), 1, 5);
         fraction("16 slanted", y.jump(0, 3, 3, 0), y.jump(0, 3, 3, 1), 4, 5);
+        fraction("16 one GENERATOR", Due.with(90).jump(0, 1, 7, 0), Due.with(90).jump(0, 1, 7, 1), 2, 9);
+        TermIdeals five = Due.with(9, 15, 23, 32, 51, 90);
+        // by 4 1, 2 1, 1 1, 1 2, 1 4 of LEVEL 9, 7, 5, 7, 9
+        fraction("16 by 4 1", five.jump(0, 0, 9, 0), five.jump(0, 0, 9, 1), 14, 9);
+        fraction("16 by 2 1", five.jump(0, 1, 3, 0), five.jump(0, 1, 3, 1), 8, 7);
+        fraction("16 by 1 1", five.jump(0, 0, 0, 0), five.jump(0, 0, 0, 1), 2, 5);
+        fraction("16 by 1 2", five.jump(0, 3, 1, 0), five.jump(0, 3, 1, 1), 8, 7);
+        fraction("16 by 1 4", five.jump(0, 9, 0, 0), five.jump(0, 9, 0, 1), 14, 9);
     }
 
     private static void jumps() {

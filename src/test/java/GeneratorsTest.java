@@ -127,6 +127,16 @@ public final class GeneratorsTest {
         Due.is("6 apart from the edges", away.close(0), 3);
         Due.generators("6 apart from the edges", away, 0, "27 46 55");
         Due.is("6 all TERMS", Due.with(12, 0).close(0), 1);
+        for (int term : new int[] {0, 9, 90, 99}) {
+            TermIdeals edge = Due.with(term);
+            Due.is("6 one, at the edge", edge.close(0), 1);
+            Due.generators("6 one, at the edge", edge, 0, term < 10 ? "0" + term : "" + term);
+        }
+        Due.is("6 seven", Due.with(6, 60).close(0), Due.FULL);
+        Due.is("6 seven, up to 9", Due.with(39, 93).close(0), Due.FULL);
+        TermIdeals high = Due.with(49, 94);
+        Due.is("6 six, up to 9", high.close(0), 6);
+        Due.generators("6 six, up to 9", high, 0, "49 58 67 76 85 94");
     }
 
     private static void back() {

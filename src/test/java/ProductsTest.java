@@ -85,6 +85,8 @@ public final class ProductsTest {
         Due.is("20 neither has GENERATORS", reduces(0, new int[] {}, new int[] {}), 0);
         Due.is("20 0 has none", reduces(0, new int[] {}, new int[] {3}), 0);
         Due.is("20 1 has none", reduces(0, new int[] {3}, new int[] {}), 0);
+        Due.is("20 first of 0 not IN 1", reduces(0, new int[] {12, 3, 20}, new int[] {3, 20}), 0);
+        Due.is("20 one GENERATOR", reduces(0, new int[] {20}, new int[] {20}), 1);
         Due.is("20 itself", reduces(0, new int[] {3, 20}, new int[] {20, 3}), 1);
         Due.is("20 its CLOSURE", reduces(0, new int[] {3, 20}, new int[] {3, 20, 12}), 1);
         Due.is("20 beyond the CLOSURE", reduces(0, new int[] {3, 20}, new int[] {3, 20, 11}), 0);
@@ -101,6 +103,13 @@ public final class ProductsTest {
         Due.is("20 MET: alike", reduces(1, new int[] {3, 20, 33}, new int[] {20, 3}), 0);
         Due.is("20 MET: once", reduces(1, new int[] {3, 20}, new int[] {3, 20, 12}), 1);
         Due.is("20 MET: no REDUCTION", reduces(1, new int[] {3, 20}, new int[] {11}), -5);
+        Due.is("20 MET: unlike at 0 alone", reduces(1, new int[] {2, 10}, new int[] {1, 10}), -5);
+        Due.is("20 MET: unlike at 54 alone", reduces(1, new int[] {91, 1}, new int[] {90, 1}), -5);
+        TermIdeals again = Due.with(new int[] {3, 20}, new int[] {3, 20, 12});
+        for (int i = 0; i < 3; i++) {
+            again.height(0, 16, 0);
+            Due.is("20 MET: asked again", again.reduces(1), 1);
+        }
         // of 0n and n0 by n0, 0n and 1 n-1: that one's n-th power is the first that is made of the others
         for (int n = 2; n <= 9; n++) {
             int[] zero = {n, 10 * n};

@@ -57,6 +57,17 @@ public final class SeenTest {
         // a, 5 beside 9, 9: while a is 5 or less, t 1 is the tightest at 0, 0
         Due.is("22 many", y.fits(0, 0, 0, 0), 6);
         Due.is("22 the least of many", y.fits(0, 0, 0, 1), 0);
+        TermIdeals one = Due.with(new int[] {50}, new int[] {11});
+        one.see(0, 1, 3);
+        Due.is("22 one GENERATOR", one.fits(0, 0, 0, 1), 3);
+        one.see(1, 2, 3);
+        one.see(9, 10, 3);
+        Due.is("22 three rows", one.fits(0, 0, 0, 0), 1);
+        one.drop(0, 0);
+        one.generate(0, 3, 0);
+        Due.is("22 IDEAL 1 beside one GENERATOR", one.fits(1, 0, 0, 0), 10);
+        one.see(2, 4, 3);
+        Due.is("22 the last row is otherwise", one.fits(1, 0, 0, 0), 0);
     }
 
     private static void fitsOfOther() {

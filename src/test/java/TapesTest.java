@@ -5,6 +5,7 @@ public final class TapesTest {
         judgeEnds();
         image();
         imageTwice();
+        imageOfRows();
         count();
         tape();
         item();
@@ -113,6 +114,40 @@ public final class TapesTest {
         Due.generators("31 anew", x, 1, "34");
     }
 
+    /** The rows told before THE IMAGE come again, though others were told in their places. */
+    private static void imageOfRows() {
+        TermIdeals x = Due.with(3, 20);
+        x.see(0, 5, 6);
+        x.see(1, 7, 6);
+        x.event(0, 12);
+        x.event(0, 99);
+        x.book(3, 1);
+        x.book(2, 1);
+        x.image();
+        Due.is("31 EVENTS", x.after(0), 4);
+        x.see(-1, 0, 0);
+        x.event(-1, 0);
+        x.book(-1, 0);
+        for (int i = 0; i < 3; i++) {
+            x.see(99, 1, 99);
+            x.event(1, 0);
+            x.book(0, 1);
+        }
+        Due.is("31 other rows", x.fits(0, 0, 1, 0), 0);
+        Due.is("31 other rows", x.after(0), 0);
+        Due.is("31 other rows", x.looked(), 0);
+        x.undo();
+        Due.is("31 rows of SEEN", x.fits(0, 0, 1, 1), 3);
+        Due.is("31 rows of EVENTS", x.after(0), 4);
+        Due.is("31 rows of EVENTS", x.after(2), 1);
+        Due.is("31 rows of the BOOK", x.looked(), 1);
+        x.see(1, 7, 5);
+        Due.is("31 rows of SEEN go on", x.count(0), 3);
+        x.undo();
+        Due.is("31 THE IMAGE stays", x.fits(0, 0, 1, 1), 3);
+        Due.is("31 THE IMAGE stays", x.count(0), 2);
+    }
+
     private static void count() {
         TermIdeals x = Due.with(1, 2, 3, 4, 5);
         x.see(0, 1, 1);
@@ -152,6 +187,13 @@ public final class TapesTest {
         }
         Due.is("33 anew", x.tape(0, 0, 60), 1);
         Due.is("33 all 0 again", x.peek(0, 59), 0);
+        for (int i = 0; i < 60; i++) {
+            x.item(0, i, 7L);
+        }
+        x.tape(0, 3, 60);
+        for (int i = 0; i < 60; i++) {
+            Due.is("33 each is 0", x.peek(0, i), 0);
+        }
         Due.is("33 of length 0", x.tape(1, 1, 0), 1);
         Due.is("33 of length 0", x.item(1, 0, 0L), Due.PLACE);
         for (int n : new int[] {0, -1, 61, Due.LOW, Due.HIGH}) {

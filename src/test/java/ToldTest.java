@@ -26,6 +26,9 @@ public final class ToldTest {
         Due.is("10 not LEAST", x.of(0, 2, 2), 0);
         Due.is("10 LEAST", x.of(0, 3, 2), 1);
         Due.is("10 the other", x.of(1, 0, 1), 7);
+        Due.is("10 not LEAST by like b", Due.with(55, 35).of(0, 0, 2), 0);
+        Due.is("10 LEAST beside it", Due.with(55, 35).of(0, 1, 2), 1);
+        Due.is("10 not LEAST by like a", Due.with(55, 53).of(0, 0, 2), 0);
     }
 
     private static void told() {
@@ -80,6 +83,10 @@ public final class ToldTest {
             Due.is("12 IN " + row[0] + row[1], x.in(0, row[0], row[1], 0), row[2]);
             Due.is("12 CLOSURE " + row[0] + row[1], x.in(0, row[0], row[1], 1), row[3]);
         }
+        TermIdeals two = Due.with(new int[] {3, 20}, new int[] {90});
+        Due.is("12 of IDEAL 0", two.in(0, 1, 2, 1), 1);
+        Due.is("12 of IDEAL 1", two.in(1, 1, 2, 1), 0);
+        Due.is("12 of IDEAL 1", two.in(1, 9, 0, 1), 1);
     }
 
     private static void face() {
