@@ -121,11 +121,11 @@ public final class TermIdeals {
             return STATE;
         }
         hull.wrap(to);
-        if (hull.countCorners() > MOST_GENERATORS) {
+        if (hull.putCorners(trial) > MOST_GENERATORS) {
             return FULL;
         }
         deeds.keep(ideal, to);
-        hull.putCorners(to);
+        to.copy(trial);
         return to.size();
     }
 
@@ -1074,30 +1074,23 @@ public final class TermIdeals {
             return TOP_POWER + 1;
         }
 
-        /** A corner: no other TERM in the CLOSURE has it IN; the CLOSURE can't do without it. */
-        int countCorners() {
+        /**
+         * How many corners there are: TERMS without which not all of the CLOSURE would be IN. There may be
+         * more of them than an IDEAL has room for; then it holds the first ones alone.
+         */
+        int putCorners(Ideal to) {
+            to.empty();
             int corners = 0;
             int lowest = TOP_POWER + 1;
             for (int a = 0; a <= TOP_POWER; a++) {
                 int b = floorAt(a);
                 if (b < lowest) {
+                    to.add(a, b);
                     corners++;
                     lowest = b;
                 }
             }
             return corners;
-        }
-
-        void putCorners(Ideal to) {
-            to.empty();
-            int lowest = TOP_POWER + 1;
-            for (int a = 0; a <= TOP_POWER; a++) {
-                int b = floorAt(a);
-                if (b < lowest) {
-                    to.add(a, b);
-                    lowest = b;
-                }
-            }
         }
     }
 
@@ -1167,9 +1160,12 @@ public final class TermIdeals {
             return i >= 0 && i < size ? belows[i] : 0;
         }
 
-        /** Below 0, 0, above 0 as JUMP i is less than, like, more than the fraction. */
+        /** Below 0, 0, above 0 as JUMP i is less than, like, more than the fraction; both are of small numbers. */
         int compare(int i, int above, int below) {
-            return Integer.compare(above(i) * below, above * below(i));
+            if (i < 0 || i >= size) {
+                return -1;
+            }
+            return aboves[i] * below - above * belows[i];
         }
     }
 
