@@ -19,6 +19,14 @@ final class Due {
         }
     }
 
+    static void same(String what, String got, String want) {
+        asked++;
+        if (!got.equals(want)) {
+            wrong++;
+            System.out.println(what + ": stands so:\n" + got + "due is:\n" + want);
+        }
+    }
+
     static void end(String test) {
         System.out.println(test + ": " + asked + " answers, " + wrong + " wrong");
         if (wrong > 0 || asked == 0) {
