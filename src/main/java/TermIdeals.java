@@ -941,8 +941,8 @@ public final class TermIdeals {
 
         /** LEVEL by these weights; it must have GENERATORS. */
         int leastWeight(int s, int t) {
-            int least = Integer.MAX_VALUE;
-            for (int k = 0; k < size; k++) {
+            int least = s * powerA(0) + t * powerB(0);
+            for (int k = 1; k < size; k++) {
                 least = Math.min(least, s * as[k] + t * bs[k]);
             }
             return least;

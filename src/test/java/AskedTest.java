@@ -1,8 +1,9 @@
-import java.util.ArrayList;
 import java.util.List;
+import java.util.function.ToLongFunction;
 
 /** "What is asked changes nothing": all that stands behind each call that only asks stood ahead of it. */
 public final class AskedTest {
+    private static final int OTHERS = 11;
     private static final int[] TERMS = {0, 3, 20, 12, 55, 99};
 
     private final String name;
@@ -136,27 +137,41 @@ public final class AskedTest {
         });
     }
 
+    private static List<ToLongFunction<TermIdeals>> questions(int i) {
+        return List.of(
+            x -> x.of(i, 1, 2), x -> x.told(i, 1), x -> x.told(i, 2), x -> x.told(i, 3), x -> x.told(i, 4), x -> x.in(i, 1, 2, 0),
+            x -> x.in(i, 1, 2, 1), x -> x.in(i, 3, 6, 1), x -> x.face(i, 0, 2), x -> x.face(i, 1, 0), x -> x.face(i, 1, 2),
+            x -> x.face(i, 2, 2), x -> x.held(i, 0, 1, 1, 1), x -> x.reason(i, 0, 0, 9, 1, 0), x -> x.reason(i, 2, 0, 9, 1, 2),
+            x -> x.jump(i, 4, 4, 0), x -> x.jump(i, 4, 4, 1), x -> x.jumps(i, 3, 0), x -> x.jumps(i, 3, 1), x -> x.lacks(i, 2, 1),
+            x -> x.height(i, 0, 3), x -> x.height(i, 1, 3), x -> x.height(i, 2, 7), x -> x.height(i, 12, 7), x -> x.height(i, 16, 12),
+            x -> x.reduces(i), x -> x.fits(i, 0, 1, 0), x -> x.fits(i, 0, 1, 1), x -> x.odds(i, 2, 1, 0), x -> x.odds(i, 2, 1, 1),
+            x -> x.mean(i, 0), x -> x.after(i), x -> x.after(2), x -> x.looked(), x -> x.judge(i, 0, 0), x -> x.count(i), x -> x.peek(0, i));
+    }
+
     /** What was asked ahead of it, of the same or the other IDEAL, makes no answer another one. */
     private static void alikeAsked() {
-        List<String> answers = new ArrayList<>();
-        for (int other = 0; other < 8; other++) {
-            TermIdeals x = Due.with(new int[] {3, 20}, new int[] {55, 27});
-            x.see(0, 5, 6);
-            x.event(2, 1);
-            StringBuilder row = new StringBuilder();
-            for (int i = 0; i < 2; i++) {
-                askOther(x, other);
-                row.append(x.told(i, 2)).append(' ').append(x.told(i, 3)).append(' ').append(x.told(i, 4)).append(' ');
-                askOther(x, other);
-                row.append(x.jumps(i, 3, 0)).append(' ').append(x.jumps(i, 3, 1)).append(' ').append(x.face(i, 1, 2)).append(' ');
-                askOther(x, other);
-                row.append(x.height(i, 12, 7)).append(' ').append(x.reduces(i)).append(' ').append(x.fits(i, 0, 1, 0)).append(' ');
-                askOther(x, other);
-                row.append(x.in(i, 1, 2, 1)).append(' ').append(x.after(1)).append(' ').append(x.lacks(i, 2, 1)).append(' ');
+        for (int ideal = 0; ideal <= 1; ideal++) {
+            List<ToLongFunction<TermIdeals>> questions = questions(ideal);
+            for (int i = 0; i < questions.size(); i++) {
+                long first = questions.get(i).applyAsLong(twoUnlike());
+                for (int other = 0; other < OTHERS; other++) {
+                    TermIdeals x = twoUnlike();
+                    askOther(x, other);
+                    Due.is("question " + i + " of IDEAL " + ideal + " behind another one, " + other, questions.get(i).applyAsLong(x), first);
+                    Due.is("question " + i + " of IDEAL " + ideal + ", asked twice", questions.get(i).applyAsLong(x), first);
+                }
             }
-            answers.add(row.append('\n').toString());
-            Due.same("answers behind other questions, " + other, answers.get(other), answers.get(0));
         }
+    }
+
+    private static TermIdeals twoUnlike() {
+        TermIdeals x = Due.with(new int[] {3, 20}, new int[] {55, 27, 88, 36});
+        x.see(0, 5, 6);
+        x.event(2, 1);
+        x.book(12, 0);
+        x.book(3, 0);
+        x.tape(0, 0, 12);
+        return x;
     }
 
     private static void askOther(TermIdeals x, int other) {
@@ -168,7 +183,10 @@ public final class AskedTest {
             case 4 -> x.after(1);
             case 5 -> x.height(0, 16, 60);
             case 6 -> x.reduces(1);
-            default -> x.close(7);
+            case 7 -> x.in(1, 9, 9, 1);
+            case 8 -> x.lacks(0, 9, 1);
+            case 9 -> x.lacks(1, 9, 1);
+            default -> x.reduces(0);
         }
     }
 }

@@ -137,5 +137,13 @@ public final class EventsTest {
         y.book(84, 0);
         y.book(49, 0);
         Due.is("28 a and b", y.looked(), -5);
+        TermIdeals all = Due.with(0);
+        Due.is("28 empty, all TERMS", all.looked(), -5);
+        all.book(0, 1);
+        Due.is("28 all TERMS", all.looked(), -5);
+        all.book(99, 1);
+        Due.is("28 all TERMS", all.looked(), -5);
+        all.book(0, 0);
+        Due.is("28 all TERMS", all.looked(), 2);
     }
 }

@@ -6,6 +6,7 @@ public final class SeenTest {
         fitsOfOther();
         fitsNotLikeAnother();
         fitsRefusals();
+        fitsByTrying();
         odds();
         mean();
         Due.end("SeenTest");
@@ -103,6 +104,45 @@ public final class SeenTest {
         Due.is("22 letter", x.fits(0, 0, -1, 0), Due.NONE);
         Due.is("22 what", x.fits(0, 0, 0, 2), Due.NONE);
         Due.is("22 what", x.fits(0, 0, 0, -1), Due.NONE);
+    }
+
+    /** "were each that of the GENERATOR there alone, all of SEEN would be so": each power 0 .. 9 is tried by hand. */
+    private static void fitsByTrying() {
+        int[][] ideals = {{3, 20}, {55, 27, 88}, {90, 9, 51, 14, 22, 31}, {40}, {6}, {99, 0}, {12, 21}};
+        int[][] rows = {{0, 5, 6}, {0, 2, 5}, {0, 1, 2}, {3, 8, 6}, {1, 98, 99}, {9, 10, 4}, {0, 1, 9}, {99, 99, 1}, {18, 20, 9}, {0, 4, 10}};
+        for (int[] ideal : ideals) {
+            for (int[] row : rows) {
+                TermIdeals x = Due.with(ideal, ideal);
+                x.see(row[0], row[1], row[2]);
+                for (int k = 0; k < ideal.length; k++) {
+                    fitsAsTried(x, ideal, row, k, 0);
+                    fitsAsTried(x, ideal, row, k, 1);
+                }
+            }
+        }
+    }
+
+    private static void fitsAsTried(TermIdeals x, int[] ideal, int[] row, int k, int letter) {
+        int many = 0;
+        int least = -5;
+        int unlike = 0;
+        for (int power = 9; power >= 0; power--) {
+            int[] then = ideal.clone();
+            then[k] = letter == 0 ? 10 * power + ideal[k] % 10 : ideal[k] / 10 * 10 + power;
+            TermIdeals tried = Due.with(then);
+            if (tried.told(0, 0) < ideal.length) {
+                continue;
+            }
+            unlike++;
+            if (row[2] * tried.jumps(0, row[0], 0) == row[1] * tried.jumps(0, row[0], 1) && tried.jumps(0, row[0], 0) != Due.NO) {
+                many++;
+                least = power;
+            }
+        }
+        Due.is("22 tried, how many", x.fits(0, k, letter, 0), many);
+        Due.is("22 tried, the least", x.fits(0, k, letter, 1), least);
+        boolean isSo = row[2] * x.jumps(0, row[0], 0) == row[1] * x.jumps(0, row[0], 1) && x.jumps(0, row[0], 0) != Due.NO;
+        Due.is("22 of IDEAL 1, IDEAL 0 stays as it is", x.fits(1, k, letter, 0), isSo ? unlike : 0);
     }
 
     private static void odds() {
