@@ -158,10 +158,12 @@ public final class TermIdeals {
     /** How many were done; THE TEXT must be without a FAULT. */
     private int doClauses() {
         int done = 0;
-        for (int at = 0; at < text.size(); at += Text.clauseLength(text.signAt(at)) + 1) {
+        int at = 0;
+        for (int clause = 0; clause < Text.MOST_CLAUSES && at < text.size(); clause++) {
             if (doClause(at) >= 0) {
                 done++;
             }
+            at += Text.clauseLength(text.signAt(at)) + 1;
         }
         return done;
     }
